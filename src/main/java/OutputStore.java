@@ -249,7 +249,8 @@ public final class OutputStore {
         int configuration = steps.configurationOf(step);
         for (int other = 0; other < PATHS; other++) {
             int slot = slotOf(configuration, other);
-            if (paths.meet(path, other) && (isOutputOfAnother(step, slot) || isStagedAgainst(step, slot, path == other))) {
+            boolean taken = isOutputOfAnother(step, slot) || isStagedAgainst(step, slot, path == other);
+            if (taken && paths.meet(path, other)) {
                 return true;
             }
         }

@@ -444,6 +444,9 @@ public final class PromisesTest {
         }
         due("a 101st", x.read(0, 0), -1);
         due("copies", x.copies(5), 101);
+        due("the 100th is held", x.held(99), 5);
+        due("no 101st is held", x.held(100), 0);
+        due("no 101st to let go", x.letGo(100), false);
         due("let go", x.letGo(99), true);
         due("100 in all", x.read(0, 0), -1);
         due("there are 100 before there is no output", x.read(1, 0), -1);
