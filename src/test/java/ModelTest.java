@@ -77,6 +77,10 @@ public final class ModelTest {
         if (luck == 1) {
             return count + random.nextInt(3);
         }
+        if (luck == 2) {
+            int[] far = Scenes.outside(0, count - 1);
+            return far[random.nextInt(far.length)];
+        }
         return count == 0 ? 0 : random.nextInt(count);
     }
 
@@ -94,7 +98,11 @@ public final class ModelTest {
 
     private long content() {
         long content = random.nextInt(contents + 1);
-        return random.nextInt(30) == 0 ? -content << 32 : content;
+        int luck = random.nextInt(30);
+        if (luck == 0) {
+            return Scenes.CONTENTS[random.nextInt(Scenes.CONTENTS.length)];
+        }
+        return luck == 1 ? -content << 32 : content;
     }
 
     private void same(String call, long got, long want) {

@@ -43,42 +43,6 @@ public final class PromisesTest {
         Checks.due(call, got, want);
     }
 
-    /** PATHS 0 .. count - 1, all at the top. */
-    private static OutputStore withPaths(int count) {
-        OutputStore x = new OutputStore();
-        for (int i = 0; i < count; i++) {
-            due("path at the top", x.path(NONE), i);
-        }
-        return x;
-    }
-
-    /** 0, with 1 and 2 INSIDE it, 3 INSIDE 1; 4 at the top. */
-    private static OutputStore withTree() {
-        OutputStore x = new OutputStore();
-        x.path(NONE);
-        x.path(0);
-        x.path(0);
-        x.path(1);
-        x.path(NONE);
-        return x;
-    }
-
-    /** An OUTPUT by a STEP of its own; answers the STEP. */
-    private static int make(OutputStore x, int target, int configuration, int path, long content) {
-        int step = x.begin(target, configuration, 0);
-        due("make: stage", x.stage(step, path, content, false, false), 1);
-        due("make: end", x.end(step, true) >= 0, true);
-        return step;
-    }
-
-    private static int makeLazy(OutputStore x, int target, int configuration, int path, long content) {
-        int step = x.begin(target, configuration, 0);
-        x.cache(content, true);
-        due("makeLazy: stage", x.stage(step, path, content, false, true), 1);
-        due("makeLazy: end", x.end(step, true) >= 0, true);
-        return step;
-    }
-
     private static void aNewObject() {
         OutputStore x = new OutputStore();
         due("new: no path to read", x.read(0, 0), -1);
@@ -121,7 +85,7 @@ public final class PromisesTest {
     }
 
     private static void pathsThatMeet() {
-        OutputStore x = withTree();
+        OutputStore x = Scenes.withTree();
         boolean[][] meet = new boolean[5][5];
         int[][] pairs = {{0, 1}, {0, 2}, {0, 3}, {1, 3}};
         for (int[] pair : pairs) {
@@ -173,7 +137,7 @@ public final class PromisesTest {
     }
 
     private static void stage() {
-        OutputStore x = withPaths(3);
+        OutputStore x = Scenes.withPaths(3);
         due("no such step", x.stage(0, 0, 5, false, false), -1);
         x.begin(0, 0, 0);
         due("staged", x.stage(0, 0, 5, false, false), 1);
@@ -193,7 +157,7 @@ public final class PromisesTest {
     }
 
     private static void stageInPlace() {
-        OutputStore x = withPaths(2);
+        OutputStore x = Scenes.withPaths(2);
         x.begin(0, 0, 0);
         x.cache(9, true);
         due("first", x.stage(0, 0, 5, true, false), 1);
@@ -213,8 +177,8 @@ public final class PromisesTest {
     }
 
     private static void stageOrderOfAnswers() {
-        OutputStore x = withTree();
-        make(x, 1, 0, 3, 7);
+        OutputStore x = Scenes.withTree();
+        Scenes.make(x, 1, 0, 3, 7);
         int step = x.begin(0, 0, 0);
         due("refused before the cache is asked", x.stage(step, 0, 5, false, true), -2);
         due("content 0 before it is refused", x.stage(step, 0, 0, false, true), -1);
@@ -227,7 +191,7 @@ public final class PromisesTest {
     }
 
     private static void stageTwelve() {
-        OutputStore x = withPaths(13);
+        OutputStore x = Scenes.withPaths(13);
         int inner = x.path(0);
         int step = x.begin(0, 0, 0);
         for (int i = 0; i < 12; i++) {
@@ -247,8 +211,8 @@ public final class PromisesTest {
     }
 
     private static void stageRefused() {
-        OutputStore x = withTree();
-        make(x, 1, 0, 1, 7);
+        OutputStore x = Scenes.withTree();
+        Scenes.make(x, 1, 0, 1, 7);
         int step = x.begin(0, 0, 0);
         due("at another target's output", x.stage(step, 1, 5, false, false), -2);
         due("around another target's output", x.stage(step, 0, 5, false, false), -2);
@@ -276,7 +240,7 @@ public final class PromisesTest {
     }
 
     private static void end() {
-        OutputStore x = withPaths(5);
+        OutputStore x = Scenes.withPaths(5);
         due("no such step", x.end(0, true), NONE);
         due("step -1", x.end(-1, true), NONE);
         int first = x.begin(0, 0, 0);
@@ -286,8 +250,8 @@ public final class PromisesTest {
         due("first", x.end(first, true), 0);
         due("ended already", x.end(first, true), NONE);
         due("ended already", x.end(first, false), NONE);
-        make(x, 1, 0, 4, 50);
-        make(x, 0, 1, 0, 60);
+        Scenes.make(x, 1, 0, 4, 50);
+        Scenes.make(x, 0, 1, 0, 60);
         int second = x.begin(0, 0, 0);
         x.stage(second, 2, 22, false, false);
         x.stage(second, 3, 13, false, false);
@@ -303,8 +267,8 @@ public final class PromisesTest {
     }
 
     private static void endBadly() {
-        OutputStore x = withPaths(3);
-        int made = make(x, 0, 0, 0, 10);
+        OutputStore x = Scenes.withPaths(3);
+        int made = Scenes.make(x, 0, 0, 0, 10);
         int step = x.begin(0, 0, 0);
         x.stage(step, 0, 20, true, false);
         x.stage(step, 1, 21, true, false);
@@ -322,7 +286,7 @@ public final class PromisesTest {
     }
 
     private static void endReplacesAll() {
-        OutputStore x = withPaths(40);
+        OutputStore x = Scenes.withPaths(40);
         for (int i = 0; i < 4; i++) {
             int step = x.begin(i, 2, 0);
             for (int k = 0; k < 10; k++) {
@@ -342,7 +306,7 @@ public final class PromisesTest {
     }
 
     private static void abandon() {
-        OutputStore x = withPaths(3);
+        OutputStore x = Scenes.withPaths(3);
         due("run -1", x.abandon(-1), NONE);
         due("run 8", x.abandon(8), NONE);
         due("nothing open", x.abandon(7), 0);
@@ -367,7 +331,7 @@ public final class PromisesTest {
     }
 
     private static void cache() {
-        OutputStore x = withPaths(1);
+        OutputStore x = Scenes.withPaths(1);
         int step = x.begin(0, 0, 0);
         due("0 on", x.cache(0, true), false);
         due("0 off", x.cache(0, false), false);
@@ -392,8 +356,8 @@ public final class PromisesTest {
     }
 
     private static void read() {
-        OutputStore x = withPaths(2);
-        make(x, 0, 0, 0, 5);
+        OutputStore x = Scenes.withPaths(2);
+        Scenes.make(x, 0, 0, 0, 5);
         due("configuration -1", x.read(-1, 0), -1);
         due("configuration 4", x.read(4, 0), -1);
         due("path -1", x.read(0, -1), -1);
@@ -407,8 +371,8 @@ public final class PromisesTest {
     }
 
     private static void readLazy() {
-        OutputStore x = withPaths(3);
-        makeLazy(x, 4, 2, 0, 5);
+        OutputStore x = Scenes.withPaths(3);
+        Scenes.makeLazy(x, 4, 2, 0, 5);
         due("lazy", x.about(2, 0, 2), 0);
         due("its content is told", x.content(2, 0), 5);
         due("not stored", x.copies(5), 0);
@@ -417,7 +381,7 @@ public final class PromisesTest {
         due("stored and held", x.copies(5), 2);
         x.cache(5, false);
         due("there without the cache", x.read(2, 0), 1);
-        makeLazy(x, 4, 2, 1, 6);
+        Scenes.makeLazy(x, 4, 2, 1, 6);
         x.cache(6, false);
         due("asking loses nothing", x.content(2, 1), 6);
         due("lost", x.read(2, 1), -3);
@@ -429,16 +393,16 @@ public final class PromisesTest {
         due("lost once", x.read(2, 1), -2);
         due("cached too late", x.cache(6, true), true);
         due("still gone", x.read(2, 1), -2);
-        makeLazy(x, 4, 3, 2, 8);
+        Scenes.makeLazy(x, 4, 3, 2, 8);
         x.cache(8, false);
         x.cache(8, true);
         due("cached again in time", x.read(3, 2), 2);
     }
 
     private static void readWhenFull() {
-        OutputStore x = withPaths(2);
-        makeLazy(x, 1, 0, 1, 6);
-        make(x, 0, 0, 0, 5);
+        OutputStore x = Scenes.withPaths(2);
+        Scenes.makeLazy(x, 1, 0, 1, 6);
+        Scenes.make(x, 0, 0, 0, 5);
         for (int i = 0; i < 100; i++) {
             due("hold", x.read(0, 0), i);
         }
@@ -457,14 +421,14 @@ public final class PromisesTest {
     }
 
     private static void held() {
-        OutputStore x = withPaths(1);
-        make(x, 0, 0, 0, -5);
+        OutputStore x = Scenes.withPaths(1);
+        Scenes.make(x, 0, 0, 0, -5);
         x.read(0, 0);
         due("held", x.held(0), -5);
         due("hold 1", x.held(1), 0);
         due("hold -1", x.held(-1), 0);
         due("hold 100", x.held(100), 0);
-        make(x, 0, 0, 0, 6);
+        Scenes.make(x, 0, 0, 0, 6);
         due("whatever becomes of the output", x.held(0), -5);
         due("cleared", x.clear(0), 1);
         due("still held", x.held(0), -5);
@@ -474,9 +438,9 @@ public final class PromisesTest {
     }
 
     private static void letGo() {
-        OutputStore x = withPaths(1);
+        OutputStore x = Scenes.withPaths(1);
         due("no hold", x.letGo(0), false);
-        make(x, 0, 0, 0, 5);
+        Scenes.make(x, 0, 0, 0, 5);
         x.read(0, 0);
         x.read(0, 0);
         due("hold -1", x.letGo(-1), false);
@@ -490,8 +454,8 @@ public final class PromisesTest {
     }
 
     private static void content() {
-        OutputStore x = withPaths(2);
-        make(x, 0, 3, 1, Long.MAX_VALUE);
+        OutputStore x = Scenes.withPaths(2);
+        Scenes.make(x, 0, 3, 1, Long.MAX_VALUE);
         due("content", x.content(3, 1), Long.MAX_VALUE);
         due("no output", x.content(3, 0), 0);
         due("no output", x.content(2, 1), 0);
@@ -502,7 +466,7 @@ public final class PromisesTest {
     }
 
     private static void about() {
-        OutputStore x = withPaths(2);
+        OutputStore x = Scenes.withPaths(2);
         x.begin(5, 0, 0);
         int step = x.begin(11, 3, 2);
         x.cache(6, true);
@@ -525,7 +489,7 @@ public final class PromisesTest {
     }
 
     private static void list() {
-        OutputStore x = withTree();
+        OutputStore x = Scenes.withTree();
         int step = x.begin(0, 1, 0);
         x.stage(step, 4, 5, false, false);
         x.stage(step, 3, 5, false, false);
@@ -552,8 +516,8 @@ public final class PromisesTest {
     }
 
     private static void dirty() {
-        OutputStore x = withPaths(2);
-        makeLazy(x, 11, 3, 0, 5);
+        OutputStore x = Scenes.withPaths(2);
+        Scenes.makeLazy(x, 11, 3, 0, 5);
         x.cache(5, false);
         int open = x.begin(11, 3, 0);
         x.read(3, 0);
@@ -564,8 +528,8 @@ public final class PromisesTest {
         due("configuration -1", x.dirty(11, -1), false);
         x.end(open, false);
         due("a bad end leaves it", x.dirty(11, 3), true);
-        make(x, 11, 2, 0, 5);
-        make(x, 10, 3, 0, 5);
+        Scenes.make(x, 11, 2, 0, 5);
+        Scenes.make(x, 10, 3, 0, 5);
         due("others' ends leave it", x.dirty(11, 3), true);
         x.clear(3);
         due("clearing leaves it", x.dirty(11, 3), true);
@@ -574,11 +538,11 @@ public final class PromisesTest {
     }
 
     private static void clear() {
-        OutputStore x = withPaths(3);
-        make(x, 0, 3, 0, 5);
-        make(x, 1, 3, 1, 5);
-        makeLazy(x, 2, 3, 2, 6);
-        make(x, 0, 2, 0, 5);
+        OutputStore x = Scenes.withPaths(3);
+        Scenes.make(x, 0, 3, 0, 5);
+        Scenes.make(x, 1, 3, 1, 5);
+        Scenes.makeLazy(x, 2, 3, 2, 6);
+        Scenes.make(x, 0, 2, 0, 5);
         due("configuration -1", x.clear(-1), NONE);
         due("configuration 4", x.clear(4), NONE);
         due("an empty one", x.clear(0), 0);
@@ -595,7 +559,7 @@ public final class PromisesTest {
     }
 
     private static void copies() {
-        OutputStore x = withPaths(4);
+        OutputStore x = Scenes.withPaths(4);
         due("of nothing", x.copies(0), 0);
         due("none", x.copies(5), 0);
         int step = x.begin(0, 0, 0);
@@ -623,7 +587,7 @@ public final class PromisesTest {
     }
 
     private static void stored() {
-        OutputStore x = withPaths(12);
+        OutputStore x = Scenes.withPaths(12);
         int step = x.begin(0, 0, 0);
         for (int i = 0; i < 12; i++) {
             x.stage(step, i, 1 + i / 2, false, false);
@@ -644,7 +608,7 @@ public final class PromisesTest {
         due("held", x.stored(), 1);
         x.letGo(0);
         due("none", x.stored(), 0);
-        makeLazy(x, 0, 0, 0, 9);
+        Scenes.makeLazy(x, 0, 0, 0, 9);
         due("lazy", x.stored(), 0);
         x.read(0, 0);
         due("read", x.stored(), 1);
@@ -652,8 +616,8 @@ public final class PromisesTest {
 
     /** No call throws or changes anything, whatever it is given. */
     private static void wildArguments() {
-        OutputStore x = withPaths(2);
-        make(x, 0, 0, 0, 5);
+        OutputStore x = Scenes.withPaths(2);
+        Scenes.make(x, 0, 0, 0, 5);
         int open = x.begin(1, 1, 1);
         for (int w : WILD) {
             due("path", x.path(w), NONE);
