@@ -270,6 +270,15 @@ public final class BoundariesOfLooksTest {
         }
     }
 
+    private static void promise13TheDeepestOfAll() {
+        OutputStore x = Scenes.withChain();
+        Scenes.make(x, 0, 0, 39, 5);
+        due("all of the configuration", x.list(0, NONE, 0), 39);
+        due("within the outermost", x.list(0, 0, 0), 39);
+        due("at it", x.list(0, 39, 0), 39);
+        due("no more", x.list(0, NONE, 1), NONE);
+    }
+
     private static void promise13FortyOutputs() {
         OutputStore x = Scenes.withPaths(40);
         stageForty(x, 3, 100, 1);

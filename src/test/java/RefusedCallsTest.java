@@ -103,7 +103,7 @@ public final class RefusedCallsTest {
 
     private static String stagings(OutputStore x) {
         StringBuilder seen = new StringBuilder("stagings ");
-        for (int step : new int[] {0, 4, 5, 6, 79}) {
+        for (int step : new int[] {0, 5, 6, 7, 79}) {
             for (int path = 0; path < 20; path++) {
                 seen.append(x.stage(step, path, 55, false, true)).append(' ');
             }
@@ -162,8 +162,8 @@ public final class RefusedCallsTest {
 
     /**
      * The tree of Scenes; OUTPUTS of TARGET 1 at 1 (7), of 2 at 4 (8, LAZY, cached), of 3 in CONFIGURATION 1
-     * at 0 (6, LAZY, to be lost); 4 DIRTY in 2; STEPS 4 (of 0 in 0, RUN 3; 5 STAGED at 2) and 5 (of 5 in 1,
-     * RUN 4; 9 STAGED as LAZY at 4) OPEN; HOLDS 0 (of 7) and 1 (let go).
+     * at 0 (6, LAZY, to be lost); 4 DIRTY in 2 and 1; STEPS 5 (of 0 in 0, RUN 3; 5 STAGED at 2) and 6 (of 5
+     * in 1, RUN 4; 9 STAGED as LAZY at 4) OPEN; HOLDS 0 (of 7) and 1 (let go).
      */
     private static void some(OutputStore x) {
         x.path(NONE);
@@ -175,11 +175,12 @@ public final class RefusedCallsTest {
         Scenes.makeLazy(x, 2, 0, 4, 8);
         Scenes.makeToLose(x, 3, 1, 0, 6);
         Scenes.soil(x, 4, 2, 0);
+        Scenes.soil(x, 4, 1, 4);
         x.begin(0, 0, 3);
-        x.stage(4, 2, 5, true, false);
+        x.stage(5, 2, 5, true, false);
         x.begin(5, 1, 4);
         x.cache(9, true);
-        x.stage(5, 4, 9, false, true);
+        x.stage(6, 4, 9, false, true);
         x.read(0, 1);
         x.read(0, 1);
         x.letGo(1);
@@ -194,7 +195,7 @@ public final class RefusedCallsTest {
 
     private static void fullSteps(OutputStore x) {
         some(x);
-        for (int step = 6; step < 80; step++) {
+        for (int step = 7; step < 80; step++) {
             x.begin(6, 3, 0);
             if (step < 79) {
                 x.end(step, true);
@@ -209,7 +210,7 @@ public final class RefusedCallsTest {
         }
         x.path(5);
         for (int path = 5; path < 16; path++) {
-            Checks.due("fullStep", x.stage(4, path, 50 + path, false, false), 1);
+            Checks.due("fullStep", x.stage(5, path, 50 + path, false, false), 1);
         }
     }
 
@@ -260,44 +261,44 @@ public final class RefusedCallsTest {
     }
 
     private static void promise04NoSuchOpenStep() {
-        for (int step : new int[] {Integer.MIN_VALUE, -1, 0, 3, 6, 80, Integer.MAX_VALUE}) {
+        for (int step : new int[] {Integer.MIN_VALUE, -1, 0, 4, 7, 80, Integer.MAX_VALUE}) {
             refused("step " + step, RefusedCallsTest::some, x -> x.stage(step, 2, 77, false, false));
         }
     }
 
     private static void promise04NoSuchPath() {
         for (int path : new int[] {Integer.MIN_VALUE, -1, 5, 40, Integer.MAX_VALUE}) {
-            refused("path " + path, RefusedCallsTest::some, x -> x.stage(4, path, 77, false, false));
+            refused("path " + path, RefusedCallsTest::some, x -> x.stage(5, path, 77, false, false));
         }
     }
 
     private static void promise04ContentZero() {
-        refused("where one is staged", RefusedCallsTest::some, x -> x.stage(4, 2, 0, false, false));
-        refused("where none is staged", RefusedCallsTest::some, x -> x.stage(5, 2, 0, false, true));
+        refused("where one is staged", RefusedCallsTest::some, x -> x.stage(5, 2, 0, false, false));
+        refused("where none is staged", RefusedCallsTest::some, x -> x.stage(6, 2, 0, false, true));
     }
 
     private static void promise04Twelve() {
-        refused("a 13th", RefusedCallsTest::fullStep, x -> x.stage(4, 16, 77, false, false));
-        refused("a 13th, lazily", RefusedCallsTest::fullStep, x -> x.stage(4, 17, 8, false, true));
-        refused("a 13th that meets one", RefusedCallsTest::fullStep, x -> x.stage(4, 18, 77, false, false));
+        refused("a 13th", RefusedCallsTest::fullStep, x -> x.stage(5, 16, 77, false, false));
+        refused("a 13th, lazily", RefusedCallsTest::fullStep, x -> x.stage(5, 17, 8, false, true));
+        refused("a 13th that meets one", RefusedCallsTest::fullStep, x -> x.stage(5, 18, 77, false, false));
     }
 
     private static void promise04Refused() {
-        changesNothing("at an output", RefusedCallsTest::some, x -> x.stage(4, 1, 77, false, false), -2);
-        changesNothing("within an output", RefusedCallsTest::some, x -> x.stage(4, 3, 77, false, false), -2);
-        changesNothing("around its own", RefusedCallsTest::some, x -> x.stage(4, 0, 77, false, false), -2);
+        changesNothing("at an output", RefusedCallsTest::some, x -> x.stage(5, 1, 77, false, false), -2);
+        changesNothing("within an output", RefusedCallsTest::some, x -> x.stage(5, 3, 77, false, false), -2);
+        changesNothing("around its own", RefusedCallsTest::some, x -> x.stage(5, 0, 77, false, false), -2);
         changesNothing("within an output elsewhere", RefusedCallsTest::some,
-            x -> x.stage(5, 2, 77, false, false), -2);
+            x -> x.stage(6, 2, 77, false, false), -2);
     }
 
     private static void promise04NotCached() {
-        changesNothing("where one is staged", RefusedCallsTest::some, x -> x.stage(4, 2, 77, false, true), -3);
+        changesNothing("where one is staged", RefusedCallsTest::some, x -> x.stage(5, 2, 77, false, true), -3);
         changesNothing("where one is staged lazily", RefusedCallsTest::some,
-            x -> x.stage(5, 4, 77, true, true), -3);
+            x -> x.stage(6, 4, 77, true, true), -3);
     }
 
     private static void promise05NoSuchOpenStep() {
-        for (int step : new int[] {Integer.MIN_VALUE, -1, 0, 3, 6, 80, Integer.MAX_VALUE}) {
+        for (int step : new int[] {Integer.MIN_VALUE, -1, 0, 4, 7, 80, Integer.MAX_VALUE}) {
             refused("well, step " + step, RefusedCallsTest::some, x -> x.end(step, true));
             refused("badly, step " + step, RefusedCallsTest::some, x -> x.end(step, false));
         }
